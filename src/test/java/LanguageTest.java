@@ -14,7 +14,6 @@ public final class LanguageTest {
         {"rule 5: static initialiser block", "\\bstatic\\s*\\{"},
         {"rule 5: static field that is not final", "\\bstatic\\s+(int|long|boolean|char|String)\\b(\\[\\])?\\s+\\w+\\s*[=;]"},
         {"rule 6", "\\b(throw|throws|try|catch|synchronized|assert|equals|hashCode|toString)\\b"},
-        {"rule 9: a loop without a counter", "\\b(while|do)\\b"},
         {"rule 13", "\\b(System\\.(?!arraycopy)|Random|Thread)\\b"}};
     private static final Check CHECK = new Check();
 

@@ -9,6 +9,8 @@ public final class SavingTest {
         slotsAreApart();
         slotKeepsWhatWasSaved();
         lotsAfterRestore();
+        plannedTimes();
+        fortyLots();
         CHECK.end();
     }
 
@@ -165,5 +167,33 @@ public final class SavingTest {
         x.advance(5);
         CHECK.due("done", 3, x.state(1));
         CHECK.due("came", 0, x.mill(0));
+    }
+
+    private static void plannedTimes() {
+        GrindingCircuit x = new GrindingCircuit();
+        x.save(1);
+        x.planLot(5, 1, 0, 0, 0);
+        x.save(0);
+        x.restore(1);
+        x.planLot(9, 1, 0, 0, 0);
+        x.restore(0);
+        x.advance(4);
+        CHECK.due("planned", 0, x.state(0));
+        x.advance(1);
+        CHECK.due("came at its own time", 2, x.state(0));
+    }
+
+    private static void fortyLots() {
+        GrindingCircuit x = new GrindingCircuit();
+        x.setReturn(0, 10);
+        for (int lot = 0; lot < 40; lot++) {
+            x.addLot(200 - lot, 0, 0, lot);
+        }
+        x.advance(90);
+        String saved = all(x);
+        CHECK.due("save(1)", 90, x.save(1));
+        x.advance(300);
+        CHECK.due("restore(1)", 90, x.restore(1));
+        CHECK.holds("forty lots are restored", saved.equals(all(x)));
     }
 }

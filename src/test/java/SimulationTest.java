@@ -18,6 +18,7 @@ public final class SimulationTest {
         ruleHeaviest();
         ruleCoarsest();
         equalLotsByArrival();
+        fullBin();
         ruleWhenTheMillStarts();
         mill();
         wrongLots();
@@ -274,6 +275,27 @@ public final class SimulationTest {
             x.setRule(rule);
             bin(x, 2, 0);
         }
+    }
+
+    /** The lot in the mill is the last, so that lot 0 waits with all the others. */
+    private static void fullBin() {
+        GrindingCircuit x = new GrindingCircuit();
+        for (int lot = 0; lot < 39; lot++) {
+            x.planLot(2, 10 + lot / 2, 0, 0, 0);
+        }
+        x.addLot(200, 0, 0, 0);
+        x.advance(2);
+        int[] arrived = new int[39];
+        int[] heaviest = new int[39];
+        for (int index = 0; index < 39; index++) {
+            arrived[index] = index;
+            heaviest[index] = index == 0 ? 38 : index % 2 == 1 ? 37 - index : 39 - index;
+        }
+        bin(x, arrived);
+        x.setRule(GrindingCircuit.HEAVIEST);
+        bin(x, heaviest);
+        x.setRule(GrindingCircuit.COARSEST);
+        bin(x, heaviest);
     }
 
     private static void ruleWhenTheMillStarts() {

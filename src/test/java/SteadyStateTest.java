@@ -127,6 +127,12 @@ public final class SteadyStateTest {
         load(x, 2, 8, 1);
         x.setFeed(1, 1);
         CHECK.due("feed enters", -5, x.product(2, 0));
+        x.setReturn(1, 0);
+        load(x, 1, 1, 1);
+        x.setFeed(1, 0);
+        x.setReturn(1, 10);
+        load(x, 1, 0, 1);
+        CHECK.fraction("no load is left over", 8, 1, x.power(0), x.power(1));
     }
 
     private static void circulatingLoad() {
