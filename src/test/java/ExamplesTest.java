@@ -11,7 +11,7 @@ public final class ExamplesTest {
     }
 
     private static void coarseFeedThatIsReturned() {
-        GrindingCircuit x = new GrindingCircuit();
+        Circuit x = new Circuit();
         CHECK.due("1: setBreakage(0,3,2,1)", 4, x.setBreakage(0, 3, 2, 1));
         CHECK.due("1: setReturn(0,10)", 0, x.setReturn(0, 10));
         CHECK.due("1: setFeed(0,60)", 0, x.setFeed(0, 60));
@@ -25,7 +25,7 @@ public final class ExamplesTest {
     }
 
     private static void lotThatIsGroundTwice() {
-        GrindingCircuit x = new GrindingCircuit();
+        Circuit x = new Circuit();
         CHECK.due("2: setBreakage(0,5,0,0)", 5, x.setBreakage(0, 5, 0, 0));
         CHECK.due("2: setReturn(0,10)", 0, x.setReturn(0, 10));
         CHECK.due("2: addLot(100,0,0,0)", 0, x.addLot(100, 0, 0, 0));
@@ -39,7 +39,7 @@ public final class ExamplesTest {
     }
 
     private static void binByItsRules() {
-        GrindingCircuit x = new GrindingCircuit();
+        Circuit x = new Circuit();
         CHECK.due("3: addLot(50,0,0,0)", 0, x.addLot(50, 0, 0, 0));
         CHECK.due("3: addLot(20,0,0,0)", 1, x.addLot(20, 0, 0, 0));
         CHECK.due("3: addLot(0,30,0,0)", 2, x.addLot(0, 30, 0, 0));
@@ -54,7 +54,7 @@ public final class ExamplesTest {
     }
 
     private static void noSteadyStateAndErrors() {
-        GrindingCircuit x = new GrindingCircuit();
+        Circuit x = new Circuit();
         CHECK.due("4: setReturn(3,10)", 0, x.setReturn(3, 10));
         CHECK.due("4: power(0)", 0, x.power(0));
         CHECK.due("4: setFeed(3,1)", 0, x.setFeed(3, 1));

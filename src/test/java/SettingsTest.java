@@ -17,7 +17,7 @@ public final class SettingsTest {
     }
 
     private static void setBreakage() {
-        GrindingCircuit x = new GrindingCircuit();
+        Circuit x = new Circuit();
         CHECK.due("setBreakage(0,3,2,1)", 4, x.setBreakage(0, 3, 2, 1));
         shares(x, 0, 4, 3, 2, 1);
         CHECK.due("setBreakage(0,0,0,10)", 0, x.setBreakage(0, 0, 0, 10));
@@ -37,7 +37,7 @@ public final class SettingsTest {
     }
 
     private static void setBreakageRefused() {
-        GrindingCircuit x = new GrindingCircuit();
+        Circuit x = new Circuit();
         x.setBreakage(0, 1, 2, 3);
         x.setBreakage(1, 4, 1, 0);
         for (int size : new int[] {-1, 4, LOWEST, HIGHEST}) {
@@ -65,14 +65,14 @@ public final class SettingsTest {
         shares(x, 3, 0, 0, 0, 10);
     }
 
-    private static void shares(GrindingCircuit x, int from, int... due) {
+    private static void shares(Circuit x, int from, int... due) {
         for (int to = 0; to < 4; to++) {
             CHECK.due("share(" + from + "," + to + ")", due[to], x.share(from, to));
         }
     }
 
     private static void share() {
-        GrindingCircuit x = new GrindingCircuit();
+        Circuit x = new Circuit();
         x.setBreakage(0, 1, 2, 3);
         for (int from = -2; from < 6; from++) {
             for (int to = -2; to < 6; to++) {
@@ -89,7 +89,7 @@ public final class SettingsTest {
     }
 
     private static void setReturn() {
-        GrindingCircuit x = new GrindingCircuit();
+        Circuit x = new Circuit();
         for (int size = 0; size < 4; size++) {
             CHECK.due("setReturn to 10", 0, x.setReturn(size, 10));
             CHECK.due("setReturn to 1 + size", 10, x.setReturn(size, 1 + size));
@@ -107,7 +107,7 @@ public final class SettingsTest {
     }
 
     private static void setWork() {
-        GrindingCircuit x = new GrindingCircuit();
+        Circuit x = new Circuit();
         for (int size = 0; size < 4; size++) {
             CHECK.due("setWork to 0", 1, x.setWork(size, 0));
             CHECK.due("setWork to 100", 0, x.setWork(size, 100));
@@ -126,7 +126,7 @@ public final class SettingsTest {
     }
 
     private static void setFeed() {
-        GrindingCircuit x = new GrindingCircuit();
+        Circuit x = new Circuit();
         for (int size = 0; size < 4; size++) {
             CHECK.due("setFeed to 1000", 0, x.setFeed(size, 1000));
             CHECK.due("setFeed to 30 + size", 1000, x.setFeed(size, 30 + size));
@@ -144,7 +144,7 @@ public final class SettingsTest {
     }
 
     private static void setRate() {
-        GrindingCircuit x = new GrindingCircuit();
+        Circuit x = new Circuit();
         CHECK.due("setRate(1)", 10, x.setRate(1));
         CHECK.due("setRate(100)", 1, x.setRate(100));
         for (int rate : new int[] {0, -1, 101, LOWEST, HIGHEST}) {
@@ -165,7 +165,7 @@ public final class SettingsTest {
     }
 
     private static void setRule() {
-        GrindingCircuit x = new GrindingCircuit();
+        Circuit x = new Circuit();
         CHECK.due("setRule(2)", 0, x.setRule(GrindingCircuit.COARSEST));
         CHECK.due("setRule(1)", 2, x.setRule(GrindingCircuit.HEAVIEST));
         for (int rule : new int[] {-1, 3, LOWEST, HIGHEST}) {

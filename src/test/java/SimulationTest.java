@@ -23,12 +23,11 @@ public final class SimulationTest {
         mill();
         wrongLots();
         totals();
-        energyWraps();
         CHECK.end();
     }
 
     private static void addLot() {
-        GrindingCircuit x = new GrindingCircuit();
+        Circuit x = new Circuit();
         CHECK.due("addLot", 0, x.addLot(0, 0, 0, 1));
         CHECK.due("it is ground at once", 2, x.state(0));
         CHECK.due("bin(-1)", 0, x.bin(-1));
@@ -50,7 +49,7 @@ public final class SimulationTest {
     }
 
     private static void addLotRefused() {
-        GrindingCircuit x = new GrindingCircuit();
+        Circuit x = new Circuit();
         CHECK.due("addLot(0,0,0,0)", -3, x.addLot(0, 0, 0, 0));
         for (int mass : new int[] {-1, 201, LOWEST, HIGHEST}) {
             CHECK.due("addLot wrong a", -3, x.addLot(mass, 1, 1, 1));
@@ -63,7 +62,7 @@ public final class SimulationTest {
     }
 
     private static void planLot() {
-        GrindingCircuit x = new GrindingCircuit();
+        Circuit x = new Circuit();
         CHECK.due("planLot(3)", 0, x.planLot(3, 5, 6, 7, 8));
         CHECK.due("planLot(1000)", 1, x.planLot(1000, 0, 200, 0, 0));
         CHECK.due("planned", 0, x.state(0));
@@ -89,7 +88,7 @@ public final class SimulationTest {
     }
 
     private static void planLotRefused() {
-        GrindingCircuit x = new GrindingCircuit();
+        Circuit x = new Circuit();
         for (int delay : new int[] {0, -1, 1001, LOWEST, HIGHEST}) {
             CHECK.due("planLot wrong delay", -3, x.planLot(delay, 1, 0, 0, 0));
         }
@@ -104,7 +103,7 @@ public final class SimulationTest {
     }
 
     private static void tooManyLots() {
-        GrindingCircuit x = new GrindingCircuit();
+        Circuit x = new Circuit();
         for (int lot = 0; lot < 40; lot++) {
             CHECK.due("lot", lot, lot % 2 == 0 ? x.addLot(1, 0, 0, 0) : x.planLot(1, 0, 1, 0, 0));
         }
@@ -122,7 +121,7 @@ public final class SimulationTest {
     }
 
     private static void advance() {
-        GrindingCircuit x = new GrindingCircuit();
+        Circuit x = new Circuit();
         for (int minutes : new int[] {0, -1, 501, LOWEST, HIGHEST}) {
             CHECK.due("advance wrong", -3, x.advance(minutes));
         }
@@ -144,7 +143,7 @@ public final class SimulationTest {
 
     /** At time 1 lot 0 finishes and returns before the planned lots come, the lower number first. */
     private static void orderAtOneTime() {
-        GrindingCircuit x = new GrindingCircuit();
+        Circuit x = new Circuit();
         x.setReturn(0, 10);
         x.addLot(10, 0, 0, 0);
         x.planLot(1, 20, 0, 0, 0);
@@ -163,7 +162,7 @@ public final class SimulationTest {
     }
 
     private static void laterPlanOfALowerTime() {
-        GrindingCircuit x = new GrindingCircuit();
+        Circuit x = new Circuit();
         x.addLot(200, 0, 0, 0);
         x.planLot(5, 1, 0, 0, 0);
         x.planLot(4, 1, 0, 0, 0);
@@ -175,7 +174,7 @@ public final class SimulationTest {
     }
 
     private static void breakingRoundsDown() {
-        GrindingCircuit x = new GrindingCircuit();
+        Circuit x = new Circuit();
         x.setBreakage(0, 3, 3, 4);
         x.setReturn(0, 10);
         x.setReturn(1, 5);
@@ -197,7 +196,7 @@ public final class SimulationTest {
     }
 
     private static void brokenOreIsNotBrokenAgain() {
-        GrindingCircuit x = new GrindingCircuit();
+        Circuit x = new Circuit();
         x.setBreakage(0, 10, 0, 0);
         x.setBreakage(1, 10, 0, 0);
         x.setBreakage(2, 10, 0, 0);
@@ -217,7 +216,7 @@ public final class SimulationTest {
     }
 
     private static void settingsAtTheFinish() {
-        GrindingCircuit x = new GrindingCircuit();
+        Circuit x = new Circuit();
         x.addLot(100, 0, 0, 0);
         x.advance(9);
         x.setBreakage(0, 5, 0, 0);
@@ -232,7 +231,7 @@ public final class SimulationTest {
     }
 
     private static void ruleHeaviest() {
-        GrindingCircuit x = new GrindingCircuit();
+        Circuit x = new Circuit();
         x.addLot(1, 0, 0, 0);
         x.addLot(50, 0, 0, 0);
         x.addLot(0, 20, 20, 20);
@@ -247,7 +246,7 @@ public final class SimulationTest {
     }
 
     private static void ruleCoarsest() {
-        GrindingCircuit x = new GrindingCircuit();
+        Circuit x = new Circuit();
         x.setRule(GrindingCircuit.COARSEST);
         x.addLot(1, 0, 0, 0);
         x.addLot(5, 3, 2, 1);
@@ -260,7 +259,7 @@ public final class SimulationTest {
     }
 
     private static void equalLotsByArrival() {
-        GrindingCircuit x = new GrindingCircuit();
+        Circuit x = new Circuit();
         x.setReturn(0, 10);
         x.addLot(10, 0, 0, 0);
         x.addLot(10, 0, 0, 0);
@@ -279,7 +278,7 @@ public final class SimulationTest {
 
     /** The lot in the mill is the last, so that lot 0 waits with all the others. */
     private static void fullBin() {
-        GrindingCircuit x = new GrindingCircuit();
+        Circuit x = new Circuit();
         for (int lot = 0; lot < 39; lot++) {
             x.planLot(2, 10 + lot / 2, 0, 0, 0);
         }
@@ -300,7 +299,7 @@ public final class SimulationTest {
 
     private static void ruleWhenTheMillStarts() {
         for (int rule = 0; rule < 3; rule++) {
-            GrindingCircuit x = new GrindingCircuit();
+            Circuit x = new Circuit();
             x.setRule(rule);
             x.addLot(1, 0, 0, 0);
             x.addLot(0, 1, 0, 0);
@@ -311,7 +310,7 @@ public final class SimulationTest {
         }
     }
 
-    private static void bin(GrindingCircuit x, int... due) {
+    private static void bin(Circuit x, int... due) {
         CHECK.due("bin(-1)", due.length, x.bin(-1));
         for (int index = 0; index < due.length; index++) {
             CHECK.due("bin(" + index + ")", due[index], x.bin(index));
@@ -322,7 +321,7 @@ public final class SimulationTest {
     }
 
     private static void mill() {
-        GrindingCircuit x = new GrindingCircuit();
+        Circuit x = new Circuit();
         for (int what : new int[] {-1, 2, LOWEST, HIGHEST}) {
             CHECK.due("mill wrong, idle", -3, x.mill(what));
         }
@@ -340,7 +339,7 @@ public final class SimulationTest {
     }
 
     private static void wrongLots() {
-        GrindingCircuit x = new GrindingCircuit();
+        Circuit x = new Circuit();
         x.addLot(1, 2, 3, 4);
         for (int lot : new int[] {-1, 1, 39, 40, LOWEST, HIGHEST}) {
             CHECK.due("state", -2, x.state(lot));
@@ -355,7 +354,7 @@ public final class SimulationTest {
     }
 
     private static void totals() {
-        GrindingCircuit x = new GrindingCircuit();
+        Circuit x = new Circuit();
         for (int size = 0; size < 4; size++) {
             x.setWork(size, 1 + size);
         }
@@ -379,19 +378,5 @@ public final class SimulationTest {
         for (int what : new int[] {-1, 4, LOWEST, HIGHEST}) {
             CHECK.due("total wrong", -3, x.total(what));
         }
-    }
-
-    /** The document has no bound for the energy; the int wraps around within 512 calls. */
-    private static void energyWraps() {
-        GrindingCircuit x = new GrindingCircuit();
-        x.setRate(100);
-        x.setWork(0, 100);
-        x.setReturn(0, 10);
-        x.addLot(200, 0, 0, 0);
-        for (int call = 0; call < 500; call++) {
-            x.advance(500);
-        }
-        CHECK.due("passes", 125000, x.passes(0));
-        CHECK.due("energy", (int) 2500000000L, x.total(2));
     }
 }

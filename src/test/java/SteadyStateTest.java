@@ -18,8 +18,8 @@ public final class SteadyStateTest {
         CHECK.end();
     }
 
-    private static GrindingCircuit ordinary() {
-        GrindingCircuit x = new GrindingCircuit();
+    private static Circuit ordinary() {
+        Circuit x = new Circuit();
         x.setBreakage(0, 3, 2, 1);
         x.setBreakage(1, 5, 1, 0);
         x.setBreakage(2, 6, 0, 0);
@@ -31,16 +31,16 @@ public final class SteadyStateTest {
         return x;
     }
 
-    private static void load(GrindingCircuit x, int size, long numerator, long denominator) {
+    private static void load(Circuit x, int size, long numerator, long denominator) {
         CHECK.fraction("load(" + size + ")", numerator, denominator, x.load(size, 0), x.load(size, 1));
     }
 
-    private static void product(GrindingCircuit x, int size, long numerator, long denominator) {
+    private static void product(Circuit x, int size, long numerator, long denominator) {
         CHECK.fraction("product(" + size + ")", numerator, denominator, x.product(size, 0), x.product(size, 1));
     }
 
     private static void loadAndProduct() {
-        GrindingCircuit x = ordinary();
+        Circuit x = ordinary();
         load(x, 0, 500, 3);
         load(x, 1, 325, 4);
         load(x, 2, 0, 1);
@@ -52,7 +52,7 @@ public final class SteadyStateTest {
     }
 
     private static void lowestTerms() {
-        GrindingCircuit x = new GrindingCircuit();
+        Circuit x = new Circuit();
         x.setFeed(3, 60);
         x.setReturn(3, 4);
         load(x, 3, 100, 1);
@@ -69,7 +69,7 @@ public final class SteadyStateTest {
 
     /** Denominators with no factor in common need the most room. */
     private static void greatestNumbers() {
-        GrindingCircuit x = new GrindingCircuit();
+        Circuit x = new Circuit();
         x.setBreakage(0, 1, 1, 1);
         x.setBreakage(1, 1, 2, 0);
         x.setBreakage(2, 1, 0, 0);
@@ -89,7 +89,7 @@ public final class SteadyStateTest {
     }
 
     private static void noSteadyState() {
-        GrindingCircuit x = ordinary();
+        Circuit x = ordinary();
         x.setReturn(3, 10);
         for (int part = 0; part < 2; part++) {
             for (int size = 0; size < 4; size++) {
@@ -101,7 +101,7 @@ public final class SteadyStateTest {
         }
         x.setReturn(3, 9);
         CHECK.holds("9 tenths have a steady state", x.load(3, 0) > 0);
-        GrindingCircuit coarse = new GrindingCircuit();
+        Circuit coarse = new Circuit();
         coarse.setReturn(0, 10);
         coarse.setFeed(0, 1);
         CHECK.due("a coarse feed that stays", -5, coarse.load(3, 0));
@@ -111,7 +111,7 @@ public final class SteadyStateTest {
     }
 
     private static void nothingEnters() {
-        GrindingCircuit x = new GrindingCircuit();
+        Circuit x = new Circuit();
         x.setReturn(1, 10);
         x.setFeed(0, 50);
         x.setBreakage(0, 0, 4, 0);
@@ -136,7 +136,7 @@ public final class SteadyStateTest {
     }
 
     private static void circulatingLoad() {
-        GrindingCircuit x = ordinary();
+        Circuit x = ordinary();
         CHECK.fraction("circulatingLoad", 37, 48, x.circulatingLoad(0), x.circulatingLoad(1));
         x.setReturn(0, 0);
         x.setReturn(1, 0);
@@ -149,7 +149,7 @@ public final class SteadyStateTest {
     }
 
     private static void power() {
-        GrindingCircuit x = ordinary();
+        Circuit x = ordinary();
         CHECK.fraction("power", 2325, 4, x.power(0), x.power(1));
         x.setWork(0, 0);
         CHECK.fraction("power of size 1 alone", 325, 4, x.power(0), x.power(1));
@@ -161,7 +161,7 @@ public final class SteadyStateTest {
     }
 
     private static void cutPower() {
-        GrindingCircuit x = ordinary();
+        Circuit x = ordinary();
         long[][] due = {{340, 1}, {540, 1}, {650, 1}, {7475, 9}, {-5, -5}};
         for (int cut = 0; cut < 5; cut++) {
             CHECK.fraction("cutPower(" + cut + ")", due[cut][0], due[cut][1], x.cutPower(cut, 0), x.cutPower(cut, 1));
@@ -171,12 +171,12 @@ public final class SteadyStateTest {
         CHECK.fraction("the power is kept", 2325, 4, x.power(0), x.power(1));
         x.setReturn(3, 10);
         CHECK.due("a cut has its own steady state", 650, x.cutPower(2, 0));
-        GrindingCircuit empty = new GrindingCircuit();
+        Circuit empty = new Circuit();
         CHECK.fraction("cutPower of nothing", 0, 1, empty.cutPower(4, 0), empty.cutPower(4, 1));
     }
 
     private static void finestCut() {
-        GrindingCircuit x = ordinary();
+        Circuit x = ordinary();
         CHECK.due("finestCut(0)", -7, x.finestCut(0));
         CHECK.due("finestCut(339)", -7, x.finestCut(339));
         CHECK.due("finestCut(340)", 0, x.finestCut(340));
@@ -187,7 +187,7 @@ public final class SteadyStateTest {
         CHECK.due("finestCut(831)", 3, x.finestCut(831));
         CHECK.due("finestCut(1000000000)", 3, x.finestCut(1000000000));
         CHECK.due("the return share is kept", 10, x.setReturn(0, 10));
-        GrindingCircuit empty = new GrindingCircuit();
+        Circuit empty = new Circuit();
         CHECK.due("finestCut(0) of nothing", 4, empty.finestCut(0));
         empty.setFeed(1, 5);
         CHECK.due("a coarser cut without a steady state", 1, empty.finestCut(5));
@@ -199,7 +199,7 @@ public final class SteadyStateTest {
 
     /** With cut 1 there is no steady state, so neither with a finer one. */
     private static void gapInTheCuts() {
-        GrindingCircuit x = new GrindingCircuit();
+        Circuit x = new Circuit();
         x.setFeed(0, 3);
         CHECK.due("cutPower(0) of the gap", 3, x.cutPower(0, 0));
         for (int cut = 1; cut < 5; cut++) {
@@ -209,7 +209,7 @@ public final class SteadyStateTest {
     }
 
     private static void wrongArguments() {
-        GrindingCircuit x = new GrindingCircuit();
+        Circuit x = new Circuit();
         x.setFeed(3, 1);
         x.setReturn(3, 10);
         for (int size : new int[] {-1, 4, LOWEST, HIGHEST}) {
