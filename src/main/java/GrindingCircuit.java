@@ -161,10 +161,10 @@ public final class GrindingCircuit {
             return BAD_VALUE;
         }
         Simulation simulation = plant.simulation;
-        if (simulation.isFull()) {
+        int number = simulation.create(a, b, c, d);
+        if (!simulation.hasLot(number)) {
             return TOO_MANY;
         }
-        int number = simulation.create(a, b, c, d);
         simulation.putIntoBin(simulation.lots[number]);
         simulation.startIfIdle(plant.settings);
         return number;
@@ -175,10 +175,10 @@ public final class GrindingCircuit {
             return BAD_VALUE;
         }
         Simulation simulation = plant.simulation;
-        if (simulation.isFull()) {
+        int number = simulation.create(a, b, c, d);
+        if (!simulation.hasLot(number)) {
             return TOO_MANY;
         }
-        int number = simulation.create(a, b, c, d);
         simulation.plan(simulation.lots[number], delay);
         return number;
     }
@@ -348,9 +348,9 @@ public final class GrindingCircuit {
         return sum;
     }
 
-    /** The denominator is above 0, so the common divisor is too. */
+    /** The denominator is above 0, so the common divisor is too; the bound shows it to the division. */
     private static long partOf(long numerator, long denominator, int part) {
-        long divisor = commonDivisor(numerator, denominator);
+        long divisor = Math.max(1, commonDivisor(numerator, denominator));
         return (part == 0 ? numerator : denominator) / divisor;
     }
 
@@ -574,20 +574,22 @@ public final class GrindingCircuit {
             returnedMass = other.returnedMass;
         }
 
-        boolean isFull() {
-            return lotCount >= MAX_LOTS;
-        }
-
         boolean isIdle() {
-            return ground == NO_LOT;
+            return !hasLot(ground);
         }
 
         boolean hasLot(int number) {
             return number >= 0 && number < lotCount;
         }
 
-        /** The lot's row may have been used before a restore, so all of it is set anew. */
+        /**
+         * The new lot's number, or NO_LOT if there are too many. The lot's row may have been used
+         * before a restore, so all of it is set anew.
+         */
         int create(int a, int b, int c, int d) {
+            if (lotCount >= MAX_LOTS) {
+                return NO_LOT;
+            }
             int number = lotCount;
             Lot lot = lots[number];
             lot.masses[0] = a;
@@ -670,13 +672,19 @@ public final class GrindingCircuit {
                 return;
             }
             int first = firstOfBin(settings.rule);
-            if (first == NO_LOT) {
+            if (!hasLot(first)) {
                 return;
             }
             Lot lot = lots[first];
             lot.place = MILL;
             ground = first;
-            finishTime = time + (sum(lot.masses) + settings.rate - 1) / settings.rate;
+            finishTime = time + minutesToGrind(sum(lot.masses), settings.rate);
+        }
+
+        /** Rounded up. setRate lets no rate below 1 in; the bound shows it to the division. */
+        private static int minutesToGrind(int mass, int rate) {
+            int divisor = Math.max(1, rate);
+            return (mass + divisor - 1) / divisor;
         }
 
         int countBin() {
