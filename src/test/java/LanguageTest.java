@@ -26,6 +26,8 @@ public final class LanguageTest {
             CHECK.holds(rule[0], !found.find());
         }
         onlyOnePublicName(code);
+        onlyListedCalls(code);
+        smallEnough(code);
         CHECK.end();
     }
 
@@ -40,5 +42,27 @@ public final class LanguageTest {
             CHECK.holds("only one method is named " + publics.group(1), !named.find());
         }
         CHECK.due("number of public methods", 25, count);
+    }
+
+    /** Rule 4: of the library's classes, these functions are all that the program uses. */
+    private static void onlyListedCalls(String code) {
+        Matcher call = Pattern.compile("\\b[A-Z][a-z]\\w*\\.\\w+").matcher(code);
+        while (call.find()) {
+            CHECK.holds("rule 4: " + call.group(), call.group().matches("Math\\.(max|min)|System\\.arraycopy"));
+        }
+    }
+
+    /** Rule 11: how many classes there are, and how long a method and its list of parameters. */
+    private static void smallEnough(String code) {
+        CHECK.holds("rule 11: classes", Pattern.compile("\\bclass \\w").matcher(code).results().count() <= 12);
+        Matcher method = Pattern.compile("(?s)\\n( {4}| {8})\\w[^\\n;=]*\\(([^()]*)\\) \\{.*?\\n\\1\\}").matcher(code);
+        int count = 0;
+        while (method.find()) {
+            count++;
+            String first = method.group().strip().lines().findFirst().orElse("");
+            CHECK.holds("rule 11: lines of " + first, method.group().lines().count() <= 61);
+            CHECK.holds("rule 11: parameters of " + first, method.group(2).split(",").length <= 7);
+        }
+        CHECK.holds("methods were found", count > 25);
     }
 }
